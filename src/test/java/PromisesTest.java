@@ -758,7 +758,7 @@ public final class PromisesTest {
         race.set(LIMIT, 0);
         throwAll(race, "5111");
         race.snake(20, 12);
-        while (race.player(0, 0) != 20) {
+        for (int round = 0; round < 30 && race.player(0, 0) != 20; round++) {
             int missing = 20 - race.player(0, 0);
             race.turn(missing > 6 ? 1 : missing);
             throwAll(race, "111");
@@ -900,10 +900,8 @@ public final class PromisesTest {
         due("24: nothing changes", race.count(0), 37);
         due("24: nothing is recorded", race.count(11), 5);
         int places = race.count(2);
-        int many = 1;
-        while (race.play(77, many) > 0 && race.count(2) == places) {
+        for (int many = 1; many <= 50 && race.play(77, many) > 0 && race.count(2) == places; many++) {
             race.undo();
-            many++;
         }
         due("24: the same as play", race.player(told, 5), 2);
         due("24: over", over().nextHome(0), NOT_POSSIBLE);
