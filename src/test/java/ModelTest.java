@@ -11,6 +11,8 @@ public final class ModelTest {
     private final int strangeness;
     private final int firstHead;
     private final int run;
+    /** In a steered run, pieces come to the heads of snakes and bites are sold where they can be. */
+    private final boolean steered;
     private int calls = 0;
 
     private ModelTest(int run) {
@@ -18,6 +20,7 @@ public final class ModelTest {
         random = new Random(run);
         strangeness = new int[] {0, 5, 30}[run % 3];
         firstHead = 7 + random.nextInt(44);
+        steered = run % 4 == 0;
     }
 
     public static void main(String[] arguments) {
@@ -27,7 +30,83 @@ public final class ModelTest {
                 test.step();
             }
         }
+        for (int buyer = 0; buyer < 4; buyer++) {
+            new ModelTest(0).collectBites(buyer, false);
+            new ModelTest(0).collectBites(buyer, true);
+        }
         Checks.end("ModelTest");
+    }
+
+    /**
+     * Each piece is bitten in each turn, and each bite is sold to the player who has just made a turn when it is
+     * about to hurt; so there are as many bites at once as there can be. Or they go to one hand at the end.
+     */
+    private void collectBites(int buyer, boolean inOneHand) {
+        due("set(0, 0)", race.set(0, 0), model.set(0, 0));
+        due("set(1, 50)", race.set(1, 50), model.set(1, 50));
+        due("set(2, 3)", race.set(2, 3), model.set(2, 3));
+        for (int turn = 0; turn < 4; turn++) {
+            due("turn(6)", race.turn(6), model.turn(6));
+        }
+        int most = 0;
+        for (int turn = 0; turn < 20 + buyer; turn++) {
+            int mover = model.count(1);
+            for (int before = 1; before < 4; before++) {
+                int latest = (mover + 4 - before) % 4;
+                if (latest != buyer || !inOneHand) {
+                    sellAll(mover, latest);
+                }
+            }
+            if (inOneHand) {
+                sellAll(mover, buyer);
+            }
+            beBitten(mover);
+            most = Math.max(most, model.count(4));
+        }
+        if (!inOneHand) {
+            due("most bites at once", most, 13);
+            return;
+        }
+        for (int seller = 0; seller < 4; seller++) {
+            sellAll(seller, buyer);
+        }
+        everything();
+        int held = model.player(buyer, 2);
+        Checks.holds("many bites in one hand: " + held, held >= 9);
+        for (int bite = -1; bite <= held; bite++) {
+            for (int what = 0; what < 4; what++) {
+                due("bite(" + bite + ", " + what + ")", race.bite(buyer, bite, what), model.bite(buyer, bite, what));
+            }
+        }
+        for (char letter = 'a'; letter <= 'i'; letter++) {
+            due("clearText()", race.clearText(), model.clearText());
+            write("(" + buyer + letter + ">" + (buyer + letter) % 4 + "$9)");
+            due("run()", race.run(), model.run());
+        }
+        everything();
+    }
+
+    private void sellAll(int seller, int buyer) {
+        for (int bite = model.player(seller, 2) - 1; bite >= 0 && seller != buyer; bite--) {
+            int coins = (model.bite(seller, bite, 0) + 2) / 3 + 2 * model.player(buyer, 2);
+            String call = "sell(" + seller + ", " + bite + ", " + buyer + ", " + coins + ")";
+            due(call, race.sell(seller, bite, buyer, coins), model.sell(seller, bite, buyer, coins));
+        }
+    }
+
+    private void beBitten(int mover) {
+        int dice = 1;
+        int begin = model.player(mover, 4);
+        while (dice < 6 && model.square(begin + dice, 0) > 0) {
+            dice++;
+        }
+        int head = begin + dice;
+        due("charm(9, 10)", race.charm(9, 10), model.charm(9, 10));
+        for (int snake = 0; model.square(head, 1) == -5 && model.count(3) == 9 && snake < 9; snake++) {
+            due("charm(" + snake + ", 10)", race.charm(snake, 10), model.charm(snake, 10));
+        }
+        due("snake(" + head + ", " + (head - 6) + ")", race.snake(head, head - 6), model.snake(head, head - 6));
+        due("turn(" + dice + ")", race.turn(dice), model.turn(dice));
     }
 
     private void due(String call, long got, long want) {
@@ -76,7 +155,7 @@ public final class ModelTest {
         } else if (kind < 5) {
             charm();
         } else if (kind < 14) {
-            int dice = value(1, 6);
+            int dice = dice();
             due("turn(" + dice + ")", race.turn(dice), model.turn(dice));
         } else if (kind < 15) {
             int x = value(0, 65535);
@@ -107,11 +186,22 @@ public final class ModelTest {
         due("charm(" + snake + ", " + turns + ")", race.charm(snake, turns), model.charm(snake, turns));
     }
 
+    private int dice() {
+        int dangers = steered ? model.dangers(model.count(1)) : 0;
+        int dice = value(1, 6);
+        return dangers > 0 && (dangers & (1 << dice)) == 0 ? Integer.numberOfTrailingZeros(dangers) : dice;
+    }
+
     private void sell() {
         int seller = holder();
         int bite = bite(seller);
         int buyer = player();
         int coins = coins();
+        int cheapest = model.cheapest(seller, bite);
+        if (steered && cheapest >= 0 && random.nextInt(8) > 0) {
+            buyer = cheapest / 100;
+            coins = cheapest % 100;
+        }
         String arguments = "(" + seller + ", " + bite + ", " + buyer + ", " + coins + ")";
         due("why" + arguments, race.why(seller, bite, buyer, coins), model.why(seller, bite, buyer, coins));
         due("sell" + arguments, race.sell(seller, bite, buyer, coins), model.sell(seller, bite, buyer, coins));

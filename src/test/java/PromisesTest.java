@@ -29,6 +29,7 @@ public final class PromisesTest {
         promise10Fault();
         promise11Run();
         promise12Undo();
+        promise12And14Whole();
         promise13Save();
         promise14Restore();
         promise15Player();
@@ -41,6 +42,7 @@ public final class PromisesTest {
         promise22Dangers();
         promise23Fewest();
         promise24NextHome();
+        promise24Turns();
         promise25Progress();
         Checks.end("PromisesTest");
     }
@@ -566,6 +568,70 @@ public final class PromisesTest {
         due("12: of the snapshot", all.count(9), 1);
     }
 
+    /** All that the queries tell of the state. */
+    private static String told(SnakeTrades race) {
+        StringBuilder told = new StringBuilder();
+        for (int what = 0; what <= 10; what++) {
+            told.append(race.count(what)).append(' ');
+        }
+        for (int player = 0; player < 4; player++) {
+            for (int what = 0; what < 8; what++) {
+                told.append(race.player(player, what)).append(' ');
+            }
+            for (int bite = 0; bite < 3; bite++) {
+                for (int what = 0; what < 4; what++) {
+                    told.append(race.bite(player, bite, what)).append(' ');
+                }
+            }
+        }
+        for (int snake = 0; snake < 4; snake++) {
+            for (int what = 0; what < 4; what++) {
+                told.append(race.snakeOf(snake, what)).append(' ');
+            }
+        }
+        return told.toString();
+    }
+
+    /** A race in which all that the state consists of is other than at first. */
+    private static SnakeTrades rich() {
+        SnakeTrades race = withOneHome();
+        race.snake(56, 50);
+        race.snake(57, 50);
+        race.snake(58, 45);
+        race.set(SLEEP, 1);
+        race.set(LIMIT, 19);
+        race.set(TRADES, 3);
+        throwAll(race, "234");
+        race.sell(1, 0, 3, 5);
+        race.sell(3, 0, 2, 8);
+        due("12: two sales", race.count(6), 2);
+        return race;
+    }
+
+    private static void promise12And14Whole() {
+        String before = told(rich());
+        SnakeTrades other = rich();
+        other.play(9, 5);
+        other.charm(0, 10);
+        other.snake(44, 33);
+        other.set(TRADES, 1);
+        due("12: the states differ", told(other).equals(before) ? 1 : 0, 0);
+        for (int i = 0; i < 4; i++) {
+            other.undo();
+        }
+        due("12: the whole state", told(other).equals(before) ? 1 : 0, 1);
+        other.save();
+        for (int x = 0; x < 12; x++) {
+            other.play(x, 50);
+        }
+        other.charm(1, 10);
+        due("14: the states differ", told(other).equals(before) ? 1 : 0, 0);
+        other.restore();
+        due("14: the whole state", told(other).equals(before) ? 1 : 0, 1);
+        other.undo();
+        due("14: undone", other.snakeOf(1, 0), NO_SUCH);
+    }
+
     private static void promise13Save() {
         SnakeTrades race = new SnakeTrades();
         due("13: at first", race.save(), 0);
@@ -648,6 +714,14 @@ public final class PromisesTest {
             due("16: what " + strange, race.bite(3, 0, strange), BAD_VALUE);
         }
         due("16: player 4", race.bite(4, 0, 0), NO_SUCH);
+        SnakeTrades again = withBite();
+        again.sell(0, 0, 1, 3);
+        again.snake(7, 1);
+        throwAll(again, "11116");
+        int[] own = {6, 0, 1, 2};
+        for (int what = 0; what < 4; what++) {
+            due("16: a later bite, bite(1, 0, " + what + ")", again.bite(1, 0, what), own[what]);
+        }
     }
 
     private static void promise17SnakeOf() {
@@ -711,6 +785,7 @@ public final class PromisesTest {
         for (int what = 0; what < counts.length; what++) {
             due("19: count(" + what + ")", race.count(what), counts[what]);
         }
+        due("19: a bite of the player 0 is held", withBite().count(4), 1);
         due("19: 13", race.count(13), BAD_VALUE);
         for (int strange : STRANGE) {
             due("19: " + strange, race.count(strange), BAD_VALUE);
@@ -784,6 +859,10 @@ public final class PromisesTest {
         race.sell(1, 0, 2, 13);
         race.set(TRADES, 3);
         due("21: the last one", race.cheapest(2, 0), 303);
+        SnakeTrades second = new SnakeTrades();
+        second.snake(9, 2);
+        throwAll(second, "663313");
+        due("21: to the player 0", second.cheapest(1, 0), 3);
         SnakeTrades more = new SnakeTrades();
         more.snake(7, 1);
         more.snake(8, 1);
@@ -906,16 +985,47 @@ public final class PromisesTest {
         due("24: the same as play", race.player(told, 5), 2);
         due("24: over", over().nextHome(0), NOT_POSSIBLE);
         due("24: BAD_VALUE ahead", over().nextHome(-1), BAD_VALUE);
-        SnakeTrades wall = new SnakeTrades();
-        wall.set(SLEEP, 0);
-        for (int head = 50; head < 60; head++) {
-            wall.snake(head, head - 40);
-        }
+        SnakeTrades wall = steep();
         int nobody = 0;
         for (int x = 0; x < 20; x++) {
             nobody += wall.nextHome(x) == NONE ? 1 : 0;
         }
         due("24: nobody comes home", nobody > 0 ? 1 : 0, 1);
+    }
+
+    /** For many x, nextHome tells what turns with the same throws bring; home in the turn 200 is in time. */
+    private static void promise24Turns() {
+        boolean inTheLast = false;
+        boolean tooLate = false;
+        for (int x = 0; x < 65536 && !(inTheLast && tooLate); x++) {
+            SnakeTrades race = steep();
+            int told = race.nextHome(x);
+            long drawn = x;
+            int turns = 0;
+            int mover = 0;
+            while (turns < 201 && race.count(2) == 4) {
+                drawn = (25173 * drawn + 13849) % 65536;
+                mover = race.count(1);
+                race.turn((int) (1 + drawn / 10923));
+                turns++;
+            }
+            boolean home = race.count(2) < 4;
+            if (x < 50 || home && turns >= 199) {
+                due("24: nextHome(" + x + ")", told, home && turns <= 200 ? mover : NONE);
+            }
+            inTheLast |= home && turns == 200;
+            tooLate |= home && turns == 201;
+        }
+        due("24: home in the turn 200, and in the turn 201", inTheLast && tooLate ? 1 : 0, 1);
+    }
+
+    private static SnakeTrades steep() {
+        SnakeTrades race = new SnakeTrades();
+        race.set(SLEEP, 0);
+        for (int head = 50; head < 60; head++) {
+            race.snake(head, head - 40);
+        }
+        return race;
     }
 
     private static void promise25Progress() {
