@@ -2,23 +2,33 @@
 final class Checks {
     private static int wrong = 0;
     private static int made = 0;
+    private static String subject = "";
 
     private Checks() {
     }
 
+    /** What the next answers are about; it is printed ahead of those that are not as due. */
+    static void about(String what) {
+        subject = what + ": ";
+    }
+
+    static int made() {
+        return made;
+    }
+
     static void due(String call, long got, long want) {
-        made++;
-        if (got != want) {
-            wrong++;
-            System.out.println(call + " answered " + got + ", due is " + want);
-        }
+        count(call, got == want, "" + got, "" + want);
     }
 
     static void due(String call, double got, double want) {
+        count(call, Double.compare(got, want) == 0, "" + got, "" + want);
+    }
+
+    private static void count(String call, boolean asDue, String got, String want) {
         made++;
-        if (Double.compare(got, want) != 0) {
+        if (!asDue) {
             wrong++;
-            System.out.println(call + " answered " + got + ", due is " + want);
+            System.out.println(subject + call + " answered " + got + ", due is " + want);
         }
     }
 

@@ -1,13 +1,5 @@
 /** For each promise of the document: ordinary inputs, the edges that the document names, and wrong inputs. */
-public final class PromisesTest {
-    private static final int NO_SUCH = -1;
-    private static final int BAD_VALUE = -2;
-    private static final int TOO_MANY = -3;
-    private static final int NOT_POSSIBLE = -4;
-    private static final int NONE = -5;
-    private static final int SLEEP = 0;
-    private static final int LIMIT = 1;
-    private static final int TRADES = 2;
+public final class PromisesTest extends Races {
     private static final int[] STRANGE = {-1, 1000, -1000, Integer.MIN_VALUE, Integer.MAX_VALUE};
 
     private PromisesTest() {
@@ -45,47 +37,6 @@ public final class PromisesTest {
         promise24Turns();
         promise25Progress();
         Checks.end("PromisesTest");
-    }
-
-    private static void due(String call, long got, long want) {
-        Checks.due(call, got, want);
-    }
-
-    private static void throwAll(SnakeTrades race, String dice) {
-        for (char sign : dice.toCharArray()) {
-            race.turn(sign - '0');
-        }
-    }
-
-    private static void write(SnakeTrades race, String text) {
-        race.clearText();
-        for (char sign : text.toCharArray()) {
-            race.append(sign);
-        }
-    }
-
-    /** A race in which the player 0 holds a bite of the size 7, and the player 1 is to throw. */
-    private static SnakeTrades withBite() {
-        SnakeTrades race = new SnakeTrades();
-        race.snake(9, 2);
-        throwAll(race, "63333");
-        return race;
-    }
-
-    /** A race in which the player 0 came home, and the players 1 to 3 stand on the square 54. */
-    private static SnakeTrades withOneHome() {
-        SnakeTrades race = new SnakeTrades();
-        for (int round = 0; round < 9; round++) {
-            throwAll(race, "6666");
-        }
-        race.turn(6);
-        return race;
-    }
-
-    private static SnakeTrades over() {
-        SnakeTrades race = withOneHome();
-        throwAll(race, "666");
-        return race;
     }
 
     private static void promise1NewObject() {
@@ -568,30 +519,6 @@ public final class PromisesTest {
         due("12: of the snapshot", all.count(9), 1);
     }
 
-    /** All that the queries tell of the state. */
-    private static String told(SnakeTrades race) {
-        StringBuilder told = new StringBuilder();
-        for (int what = 0; what <= 10; what++) {
-            told.append(race.count(what)).append(' ');
-        }
-        for (int player = 0; player < 4; player++) {
-            for (int what = 0; what < 8; what++) {
-                told.append(race.player(player, what)).append(' ');
-            }
-            for (int bite = 0; bite < 3; bite++) {
-                for (int what = 0; what < 4; what++) {
-                    told.append(race.bite(player, bite, what)).append(' ');
-                }
-            }
-        }
-        for (int snake = 0; snake < 4; snake++) {
-            for (int what = 0; what < 4; what++) {
-                told.append(race.snakeOf(snake, what)).append(' ');
-            }
-        }
-        return told.toString();
-    }
-
     /** A race in which all that the state consists of is other than at first. */
     private static SnakeTrades rich() {
         SnakeTrades race = withOneHome();
@@ -1017,15 +944,6 @@ public final class PromisesTest {
             tooLate |= home && turns == 201;
         }
         due("24: home in the turn 200, and in the turn 201", inTheLast && tooLate ? 1 : 0, 1);
-    }
-
-    private static SnakeTrades steep() {
-        SnakeTrades race = new SnakeTrades();
-        race.set(SLEEP, 0);
-        for (int head = 50; head < 60; head++) {
-            race.snake(head, head - 40);
-        }
-        return race;
     }
 
     private static void promise25Progress() {
