@@ -31,6 +31,7 @@ public final class LanguageTest {
         Checks.holds("signs are 1 to 127", source.chars().allMatch(sign -> sign > 0 && sign < 128));
         Checks.holds("no static block", !Pattern.compile("static\\s*\\{").matcher(code).find());
         checkSizes(source, code);
+        checkThatOnlyConstructorsMake(code);
         Checks.end("LanguageTest");
     }
 
@@ -46,6 +47,20 @@ public final class LanguageTest {
             Checks.holds(head.group().trim() + " is short: " + lines, lines <= MOST_LINES_OF_A_METHOD);
             Checks.holds(head.group().trim() + " has few parameters",
                 head.group(2).split(",").length <= MOST_PARAMETERS);
+        }
+        Checks.holds("methods are found: " + methods, methods > 50);
+    }
+
+    /** All calls of a run share one room: so what an object needs is made with it, and by no call. */
+    private static void checkThatOnlyConstructorsMake(String code) {
+        Matcher head = Pattern.compile("(?m)^( {4}| {8})(?!return|new)[\\w\\[\\] ]+ \\w+\\([^()]*\\) \\{$").matcher(code);
+        int methods = 0;
+        while (head.find()) {
+            boolean isConstructor = Pattern.matches("(public |private )?[A-Z]\\w*\\(.*", head.group().trim());
+            String body = code.substring(head.start(), code.indexOf("\n" + head.group(1) + "}", head.end()));
+            methods += isConstructor ? 0 : 1;
+            Checks.holds(head.group().trim() + " makes nothing",
+                isConstructor || !Pattern.compile("\\bnew\\b|\\.clone\\(").matcher(body).find());
         }
         Checks.holds("methods are found: " + methods, methods > 50);
     }

@@ -49,16 +49,17 @@ public final class QueriesBoundariesTest extends Races {
             due("player(0, 1) in the deepest debt", race.player(0, 1), 950);
             due("player(1, 1)", race.player(1, 1), 1070);
         });
-        document.sentence("4 for the square on which the next turn of the player begins, when its bites have hurt", () -> {
-            SnakeTrades race = withBite();
-            due("player(0, 4), bitten", race.player(0, 4), 2);
-            due("player(0, 0), bitten", race.player(0, 0), 9);
-            race.sell(0, 0, 1, 3);
-            due("player(0, 4), sold", race.player(0, 4), 9);
-            due("player(1, 4), not farther than 0", race.player(1, 4), 0);
-            due("player(2, 4), without bites", race.player(2, 4), 3);
-            due("player(0, 4) at home", over().player(0, 4), 60);
-        });
+        document.sentence("4 for the square on which the next turn of the player begins, when its bites have hurt",
+            () -> {
+                SnakeTrades race = withBite();
+                due("player(0, 4), bitten", race.player(0, 4), 2);
+                due("player(0, 0), bitten", race.player(0, 0), 9);
+                race.sell(0, 0, 1, 3);
+                due("player(0, 4), sold", race.player(0, 4), 9);
+                due("player(1, 4), not farther than 0", race.player(1, 4), 0);
+                due("player(2, 4), without bites", race.player(2, 4), 3);
+                due("player(0, 4) at home", over().player(0, 4), 60);
+            });
         document.sentence("5 for the place (1 for the player who came to the square 60 first, and so on; NONE if the"
             + " player is in the race)", () -> {
                 SnakeTrades race = standing(48, 54, 48, 54);
@@ -109,6 +110,9 @@ public final class QueriesBoundariesTest extends Races {
                 due("player(0, 6), twice", race.player(0, 6), 2);
                 throwAll(race, "1111");
                 due("player(0, 7), from 10 to 1", race.player(0, 7), 9);
+                throwAll(race, "111611111111");
+                due("player(0, 6), three times", race.player(0, 6), 3);
+                due("player(0, 7), from 9 to 2, too", race.player(0, 7), 9 + 7);
             });
     }
 
@@ -156,11 +160,12 @@ public final class QueriesBoundariesTest extends Races {
                 int[] masks = {1, 9, 13, 15};
                 int[] holders = {0, 3, 2, 1};
                 for (int sold = 0; sold < 4; sold++) {
-                    int[] due = {7, sold, 0, masks[sold]};
+                    int holder = holders[sold];
+                    int[] numbers = {7, sold, 0, masks[sold]};
                     for (int what = 0; what < 4; what++) {
-                        due("bite(" + holders[sold] + ", 0, " + what + ")", race.bite(holders[sold], 0, what), due[what]);
+                        due("bite(" + holder + ", 0, " + what + ")", race.bite(holder, 0, what), numbers[what]);
                     }
-                    race.sell(holders[sold], 0, sold < 3 ? holders[sold + 1] : 0, 3);
+                    race.sell(holder, 0, sold < 3 ? holders[sold + 1] : 0, 3);
                 }
             });
         document.sentence("NO_SUCH if there is no such player or bite", () -> {
@@ -180,27 +185,28 @@ public final class QueriesBoundariesTest extends Races {
 
     private void snakeOf() {
         document.section("Promise 17");
-        document.sentence("0 for its head, 1 for its tail, 2 for its sleep, 3 for how often it has bitten so far", () -> {
-            SnakeTrades race = new SnakeTrades();
-            race.snake(59, 53);
-            race.snake(7, 1);
-            int[][] numbers = {{59, 53, 0, 0}, {7, 1, 0, 0}};
-            for (int snake = 0; snake < 2; snake++) {
-                for (int what = 0; what < 4; what++) {
-                    due("snakeOf(" + snake + ", " + what + ")", race.snakeOf(snake, what), numbers[snake][what]);
+        document.sentence("0 for its head, 1 for its tail, 2 for its sleep, 3 for how often it has bitten so far",
+            () -> {
+                SnakeTrades race = new SnakeTrades();
+                race.snake(59, 53);
+                race.snake(7, 1);
+                int[][] numbers = {{59, 53, 0, 0}, {7, 1, 0, 0}};
+                for (int snake = 0; snake < 2; snake++) {
+                    for (int what = 0; what < 4; what++) {
+                        due("snakeOf(" + snake + ", " + what + ")", race.snakeOf(snake, what), numbers[snake][what]);
+                    }
                 }
-            }
-            race.set(SLEEP, 9);
-            throwAll(race, "66661");
-            due("snakeOf(1, 2), it has bitten", race.snakeOf(1, 2), 9);
-            due("snakeOf(1, 3), it has bitten", race.snakeOf(1, 3), 1);
-            race.charm(1, 9);
-            due("snakeOf(1, 2), charmed", race.snakeOf(1, 2), 18);
-            race.charm(1, 10);
-            race.snake(7, 1);
-            due("snakeOf(1, 2), a new one", race.snakeOf(1, 2), 0);
-            due("snakeOf(1, 3), a new one", race.snakeOf(1, 3), 0);
-        });
+                race.set(SLEEP, 9);
+                throwAll(race, "66661");
+                due("snakeOf(1, 2), it has bitten", race.snakeOf(1, 2), 9);
+                due("snakeOf(1, 3), it has bitten", race.snakeOf(1, 3), 1);
+                race.charm(1, 9);
+                due("snakeOf(1, 2), charmed", race.snakeOf(1, 2), 18);
+                race.charm(1, 10);
+                race.snake(7, 1);
+                due("snakeOf(1, 2), a new one", race.snakeOf(1, 2), 0);
+                due("snakeOf(1, 3), a new one", race.snakeOf(1, 3), 0);
+            });
         document.sentence("NO_SUCH if there is no such snake", () -> {
             due("snakeOf(0, 0), none", new SnakeTrades().snakeOf(0, 0), NO_SUCH);
             SnakeTrades race = steep();
@@ -282,8 +288,9 @@ public final class QueriesBoundariesTest extends Races {
 
     private void countTrades() {
         document.section("Promise 19");
-        document.sentence("4 for bites that are held, 5 for bites so far, 6 for sales so far, 7 for the sum of the coins of"
-            + " all players, 8 to 10 for the settings, 11 for states in the history, 12 for the length of the text", () -> {
+        document.sentence("4 for bites that are held, 5 for bites so far, 6 for sales so far, 7 for the sum of the coins"
+            + " of all players, 8 to 10 for the settings, 11 for states in the history, 12 for the length of the text",
+            () -> {
                 SnakeTrades race = new SnakeTrades();
                 countsDue("at first", race, 0, 0, 0, 40, 2, 20, 2, 0, 0);
                 race.snake(9, 2);
@@ -568,8 +575,8 @@ public final class QueriesBoundariesTest extends Races {
                 bothDue("of " + player, race, player, throwsHome[player]);
             }
         });
-        document.sentence("Returns the number of throws (the same for both), 0 if the player is not in the race any more",
-            () -> {
+        document.sentence("Returns the number of throws (the same for both), 0 if the player is not in the race any"
+            + " more", () -> {
                 SnakeTrades race = withOneHome();
                 bothDue("home", race, 0, 0);
                 race.turn(5);
@@ -599,18 +606,15 @@ public final class QueriesBoundariesTest extends Races {
 
     // ---- 24 and 25
 
-    private static int drawn(int x) {
-        return (int) ((25173L * x + 13849) % 65536);
-    }
-
     private void nextHome() {
         document.section("Promise 24");
-        document.sentence("Tells who would be first, if turns were made as play does (at most 200, without trades).", () -> {
-            due("nextHome(4331), home in the turn 200", steep().nextHome(4331), 3);
-            due("turns for 4331", turnsUntilHome(4331), 200);
-            due("nextHome(13919), home in the turn 201", steep().nextHome(13919), NONE);
-            due("turns for 13919", turnsUntilHome(13919), 201);
-        });
+        document.sentence("Tells who would be first, if turns were made as play does (at most 200, without trades).",
+            () -> {
+                due("nextHome(4331), home in the turn 200", steep().nextHome(4331), 3);
+                due("turns for 4331", turnsUntilHome(4331), 200);
+                due("nextHome(13919), home in the turn 201", steep().nextHome(13919), NONE);
+                due("turns for 13919", turnsUntilHome(13919), 201);
+            });
         document.sentence("Returns the next player who would come to the square 60", () -> {
             for (int x = 0; x < 65536; x += 1111) {
                 SnakeTrades race = withOneHome();
@@ -674,8 +678,8 @@ public final class QueriesBoundariesTest extends Races {
                 Checks.due("progress(" + player + ")", race.progress(player), due[player]);
             }
         });
-        document.sentence("Returns the square on which the next turn of the player begins (the square 60 if the player is"
-            + " not in the race), as a double, divided by 60", () -> {
+        document.sentence("Returns the square on which the next turn of the player begins (the square 60 if the player"
+            + " is not in the race), as a double, divided by 60", () -> {
                 SnakeTrades race = withBite();
                 Checks.due("progress(0), the bite hurts first", race.progress(0), 2 / 60.0);
                 race.sell(0, 0, 1, 3);

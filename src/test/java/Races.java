@@ -101,6 +101,11 @@ abstract class Races {
         race.charm(snake, 10);
     }
 
+    /** The x that play draws from this one. */
+    static int drawn(int x) {
+        return (int) ((25173L * x + 13849) % 65536);
+    }
+
     /** All that the queries tell of the state. */
     static String told(SnakeTrades race) {
         StringBuilder told = new StringBuilder();

@@ -234,6 +234,17 @@ public final class TermsBoundariesTest extends Races {
             race.turn(1);
             due("player(3, 0), nine bites hurt", race.player(3, 0), 1);
             due("player(3, 2), they are gone", race.player(3, 2), 0);
+            SnakeTrades passed = standing(40, 40, 40, 40);
+            beBitten(passed, 10);
+            beBitten(passed, 11);
+            sellDue(passed, 1, 0, 0, 6);
+            sellDue(passed, 0, 0, 3, 4);
+            due("bite(0, 0, 0), moved up", passed.bite(0, 0, 0), 11);
+            beBitten(passed, 12);
+            sellDue(passed, 2, 0, 0, 6);
+            due("bite(0, 0, 0), the same", passed.bite(0, 0, 0), 11);
+            due("bite(0, 1, 0), the latest", passed.bite(0, 1, 0), 12);
+            due("bite(3, 0, 0)", passed.bite(3, 0, 0), 10);
         });
         document.sentence("the piece goes back by the sizes of all of them together, but not farther than to the"
             + " square 0, and they are gone.", () -> {
@@ -365,22 +376,23 @@ public final class TermsBoundariesTest extends Races {
 
     /** The numbers of the rule hold on the way back from the last square, too. */
     private void biteBackwards() {
-        document.sentence("the player gets a bite of its size, and the sleep of the snake becomes SLEEP plus 1.", () -> {
-            SnakeTrades race = standing(58, 54, 54, 54);
-            race.snake(59, 19);
-            race.snake(58, 20);
-            race.charm(1, 5);
-            race.turn(3);
-            due("player(0, 3)", race.player(0, 3), 40);
-            due("snakeOf(0, 2) after the turn", race.snakeOf(0, 2), 2);
-            due("snakeOf(1, 2), another snake", race.snakeOf(1, 2), 4);
-            SnakeTrades own = alone(59);
-            own.snake(59, 53);
-            own.set(SLEEP, 0);
-            own.turn(2);
-            due("player(3, 2), from the head to the head", own.player(3, 2), 1);
-            due("snakeOf(0, 2), SLEEP 0", own.snakeOf(0, 2), 0);
-        });
+        document.sentence("the player gets a bite of its size, and the sleep of the snake becomes SLEEP plus 1.",
+            () -> {
+                SnakeTrades race = standing(58, 54, 54, 54);
+                race.snake(59, 19);
+                race.snake(58, 20);
+                race.charm(1, 5);
+                race.turn(3);
+                due("player(0, 3)", race.player(0, 3), 40);
+                due("snakeOf(0, 2) after the turn", race.snakeOf(0, 2), 2);
+                due("snakeOf(1, 2), another snake", race.snakeOf(1, 2), 4);
+                SnakeTrades own = alone(59);
+                own.snake(59, 53);
+                own.set(SLEEP, 0);
+                own.turn(2);
+                due("player(3, 2), from the head to the head", own.player(3, 2), 1);
+                due("snakeOf(0, 2), SLEEP 0", own.snakeOf(0, 2), 0);
+            });
     }
 
     private void turnOfTheNext() {
