@@ -545,6 +545,10 @@ public final class QueriesBoundariesTest extends Races {
                 bothDue("from 48 with a bite of 6", bitten, 1, 4);
             });
         document.sentence("- `way`: 0: told from the square of the player on; 1: told from the square 60 back", () -> {
+            bothDue("from 0", new SnakeTrades(), 0, 10);
+            for (int square = 1; square < 7; square++) {
+                bothDue("from " + square, standing(square, 1, 1, 1), 0, square < 6 ? 10 : 9);
+            }
             for (int square = 10; square < 60; square++) {
                 bothDue("from " + square, alone(square), 3, (60 - square + 5) / 6);
             }
@@ -571,7 +575,7 @@ public final class QueriesBoundariesTest extends Races {
         document.sentence("- `player`: 0 to 3", () -> {
             SnakeTrades race = standing(30, 35, 40, 42);
             int[] throwsHome = {5, 5, 4, 3};
-            for (int player = 0; player < 4; player++) {
+            for (int player : new int[] {0, 1, 2, 3, 2, 1, 0}) {
                 bothDue("of " + player, race, player, throwsHome[player]);
             }
         });
