@@ -4,13 +4,19 @@ import java.io.IOException;
 public final class ActionsBoundariesTest extends Races {
     private static final int PROMISES = 14;
 
-    private final Document document = new Document();
+    private final Document document;
 
-    private ActionsBoundariesTest() throws IOException {
+    private ActionsBoundariesTest(Document document) {
+        this.document = document;
     }
 
     public static void main(String[] arguments) throws IOException {
-        ActionsBoundariesTest test = new ActionsBoundariesTest();
+        checkAll(new Document());
+        Checks.end("ActionsBoundariesTest");
+    }
+
+    static void checkAll(Document document) {
+        ActionsBoundariesTest test = new ActionsBoundariesTest(document);
         test.newObject();
         test.snakeRanges();
         test.snakeCodes();
@@ -32,7 +38,6 @@ public final class ActionsBoundariesTest extends Races {
         for (int promise = 1; promise <= PROMISES; promise++) {
             test.document.nothingLeftOut("Promise " + promise);
         }
-        Checks.end("ActionsBoundariesTest");
     }
 
     private void newObject() {

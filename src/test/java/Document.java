@@ -1,12 +1,13 @@
 import java.io.IOException;
 import java.nio.file.Files;
 import java.nio.file.Path;
+import java.util.List;
 import java.util.regex.Matcher;
 import java.util.regex.Pattern;
 
 /**
  * The document, and which of its words a test has quoted: so that no test speaks of a sentence that is not there,
- * and no sentence that names a boundary case is left without a test.
+ * and no sentence (for some tests: none that names a boundary case) is left without a test.
  */
 final class Document {
     private static final Path PLACE = Path.of("../shared/DOC.md");
@@ -17,6 +18,8 @@ final class Document {
         + "|above \\d+|below \\d+|only in|without|no other|does not|did not|do not|never|not an action|not change"
         + "|changes nothing|even if|first|last|lowest|fewest coins|previous|other pieces|remains|any number"
         + "|if it would not|0\\.0|0 if)\\b");
+    private static final Pattern WORD = Pattern.compile("\\w+");
+    private static final Pattern HEADING_LINE = Pattern.compile("(?m)^(#|```).*$");
 
     private final String text;
     private final boolean[] quoted;
@@ -32,30 +35,60 @@ final class Document {
         heading = newHeading;
     }
 
-    /** Runs the test of a sentence, or of the part of one that names a boundary case. */
-    void sentence(String words, Runnable test) {
+    /** Quotes words that promise nothing by themselves. */
+    void label(String words) {
         Checks.about(heading + ", '" + words + "'");
         int place = text.indexOf(words, startOf(heading));
         boolean isThere = place >= 0 && place + words.length() <= endOf(heading);
         Checks.holds("is in the document", isThere);
-        for (int i = 0; isThere && i < words.length(); i++) {
-            quoted[place + i] = true;
+        if (isThere) {
+            quote(place, place + words.length());
         }
+    }
+
+    /** Runs the test of a sentence, or of a part of one. */
+    void sentence(String words, Runnable test) {
+        label(words);
         int before = Checks.made();
         test.run();
         Checks.holds("is tested", Checks.made() > before);
     }
 
+    /** The lines under the present heading that are neither empty nor a fence. */
+    List<String> lines() {
+        return text.substring(startOf(heading), endOf(heading)).lines()
+            .filter(line -> !line.isBlank() && !line.startsWith("```")).toList();
+    }
+
     /** Each word under the heading that tells of a boundary case has to be quoted by now. */
     void nothingLeftOut(String ofHeading) {
         Checks.about(ofHeading);
-        Matcher boundary = BOUNDARY.matcher(text).region(startOf(ofHeading), endOf(ofHeading));
-        while (boundary.find()) {
+        quotedDue(BOUNDARY.matcher(text).region(startOf(ofHeading), endOf(ofHeading)));
+    }
+
+    /** Each word of the document has to be quoted by now, but for the headings. */
+    void nothingLeftOut() {
+        Matcher line = HEADING_LINE.matcher(text);
+        while (line.find()) {
+            quote(line.start(), line.end());
+        }
+        Checks.about("the whole document");
+        quotedDue(WORD.matcher(text));
+    }
+
+    private void quotedDue(Matcher words) {
+        while (words.find()) {
             boolean isQuoted = true;
-            for (int i = boundary.start(); i < boundary.end(); i++) {
+            for (int i = words.start(); i < words.end(); i++) {
                 isQuoted &= quoted[i];
             }
-            Checks.holds("a test of '" + around(boundary.start(), boundary.end()) + "'", isQuoted);
+            Checks.holds("a test of '" + words.group() + "' in '" + around(words.start(), words.end()) + "'", isQuoted);
+        }
+    }
+
+    private void quote(int from, int to) {
+        for (int i = from; i < to; i++) {
+            quoted[i] = true;
         }
     }
 
@@ -64,7 +97,7 @@ final class Document {
     }
 
     private int startOf(String ofHeading) {
-        Matcher line = Pattern.compile("(?m)^#+ " + Pattern.quote(ofHeading) + "(:|$)").matcher(text);
+        Matcher line = Pattern.compile("(?m)^#+ " + Pattern.quote(ofHeading) + "(:.*)?$").matcher(text);
         return line.find() ? line.end() : text.length();
     }
 

@@ -7,13 +7,19 @@ import java.util.function.ToIntFunction;
 public final class HistoryBoundariesTest extends Races {
     private static final String[] HEADINGS = {"Text", "Actions and history", "Errors"};
 
-    private final Document document = new Document();
+    private final Document document;
 
-    private HistoryBoundariesTest() throws IOException {
+    private HistoryBoundariesTest(Document document) {
+        this.document = document;
     }
 
     public static void main(String[] arguments) throws IOException {
-        HistoryBoundariesTest test = new HistoryBoundariesTest();
+        checkAll(new Document());
+        Checks.end("HistoryBoundariesTest");
+    }
+
+    static void checkAll(Document document) {
+        HistoryBoundariesTest test = new HistoryBoundariesTest(document);
         test.room();
         test.signs();
         test.fault();
@@ -29,7 +35,6 @@ public final class HistoryBoundariesTest extends Races {
         for (String heading : HEADINGS) {
             test.document.nothingLeftOut(heading);
         }
-        Checks.end("HistoryBoundariesTest");
     }
 
     // ---- Text

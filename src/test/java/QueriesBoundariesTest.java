@@ -5,13 +5,19 @@ public final class QueriesBoundariesTest extends Races {
     private static final int FIRST_PROMISE = 15;
     private static final int LAST_PROMISE = 25;
 
-    private final Document document = new Document();
+    private final Document document;
 
-    private QueriesBoundariesTest() throws IOException {
+    private QueriesBoundariesTest(Document document) {
+        this.document = document;
     }
 
     public static void main(String[] arguments) throws IOException {
-        QueriesBoundariesTest test = new QueriesBoundariesTest();
+        checkAll(new Document());
+        Checks.end("QueriesBoundariesTest");
+    }
+
+    static void checkAll(Document document) {
+        QueriesBoundariesTest test = new QueriesBoundariesTest(document);
         test.playerNumbers();
         test.playerBites();
         test.playerCodes();
@@ -33,7 +39,6 @@ public final class QueriesBoundariesTest extends Races {
         for (int promise = FIRST_PROMISE; promise <= LAST_PROMISE; promise++) {
             test.document.nothingLeftOut("Promise " + promise);
         }
-        Checks.end("QueriesBoundariesTest");
     }
 
     // ---- 15 and 16: players and bites

@@ -4,13 +4,19 @@ import java.io.IOException;
 public final class TermsBoundariesTest extends Races {
     private static final String[] HEADINGS = {"Terms", "Settings", "Bites", "A turn", "Trades"};
 
-    private final Document document = new Document();
+    private final Document document;
 
-    private TermsBoundariesTest() throws IOException {
+    private TermsBoundariesTest(Document document) {
+        this.document = document;
     }
 
     public static void main(String[] arguments) throws IOException {
-        TermsBoundariesTest test = new TermsBoundariesTest();
+        checkAll(new Document());
+        Checks.end("TermsBoundariesTest");
+    }
+
+    static void checkAll(Document document) {
+        TermsBoundariesTest test = new TermsBoundariesTest(document);
         test.calls();
         test.squaresAndPlayers();
         test.snakes();
@@ -26,7 +32,6 @@ public final class TermsBoundariesTest extends Races {
         for (String heading : HEADINGS) {
             test.document.nothingLeftOut(heading);
         }
-        Checks.end("TermsBoundariesTest");
     }
 
     // ---- What it is
