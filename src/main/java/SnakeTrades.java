@@ -953,14 +953,15 @@ public final class SnakeTrades {
 
         private void dropOldest() {
             Race oldest = stateAt(0);
-            for (int i = 0; i + 1 < states.length; i++) {
+            int last = states.length - 1;
+            if (oldest == null || last < 0) {
+                return;
+            }
+            for (int i = 0; i < last; i++) {
                 states[i] = states[i + 1];
             }
-            int last = states.length - 1;
-            if (last >= 0) {
-                states[last] = oldest;
-                held = last;
-            }
+            states[last] = oldest;
+            held = last;
         }
     }
 
